@@ -426,22 +426,18 @@ public final class LanguageAtoms {
         /** Bit k stands for state k. */
         private int finals = 0;
 
-        @Override
         int codeBound() {
             return MAX_STATES;
         }
 
-        @Override
         int startCode() {
             return 0;
         }
 
-        @Override
         int follow(int state, int letter) {
             return targets[state * LETTERS + letter];
         }
 
-        @Override
         boolean isAccepting(int state) {
             return (finals >> state & 1) == 1;
         }
@@ -479,17 +475,21 @@ public final class LanguageAtoms {
         void drawAll(int seed) {
             int x = seed;
             for (int i = 0; i < states * LETTERS; i++) {
-                x = nextDraw(x);
-                targets[i] = (x >>> 16) % states;
+                x = nextValue(x);
+                targets[i] = draw(x, states);
             }
             for (int state = 0; state < states; state++) {
-                x = nextDraw(x);
-                mark(state, (x >>> 16) % 2 == 1);
+                x = nextValue(x);
+                mark(state, draw(x, 2) == 1);
             }
         }
 
-        private static int nextDraw(int x) {
+        private static int nextValue(int x) {
             return x * 1103515245 + 12345;
+        }
+
+        private static int draw(int x, int bound) {
+            return bound > 0 ? (x >>> 16) % bound : 0;
         }
 
         void becomeWitness(int newStates) {
@@ -556,24 +556,20 @@ public final class LanguageAtoms {
             second = newSecond;
         }
 
-        @Override
         int codeBound() {
             return MAX_STATES * MAX_STATES;
         }
 
-        @Override
         int startCode() {
             return 0;
         }
 
-        @Override
         int follow(int code, int letter) {
             int left = first.follow(code / MAX_STATES, letter);
             int right = second.follow(code % MAX_STATES, letter);
             return left * MAX_STATES + right;
         }
 
-        @Override
         boolean isAccepting(int code) {
             boolean left = first.isAccepting(code / MAX_STATES);
             boolean right = second.isAccepting(code % MAX_STATES);
@@ -602,22 +598,18 @@ public final class LanguageAtoms {
             forward.fillForward(second);
         }
 
-        @Override
         int codeBound() {
             return MAX_CODES;
         }
 
-        @Override
         int startCode() {
             return enter(0, 0);
         }
 
-        @Override
         int follow(int code, int letter) {
             return enter(first.follow(code / SETS, letter), forward.of(letter, code % SETS));
         }
 
-        @Override
         boolean isAccepting(int code) {
             return (code % SETS & secondFinals) != 0;
         }
@@ -639,23 +631,19 @@ public final class LanguageAtoms {
             forward.fillForward(automaton);
         }
 
-        @Override
         int codeBound() {
             return SETS + 1;
         }
 
-        @Override
         int startCode() {
             return START;
         }
 
-        @Override
         int follow(int code, int letter) {
             int set = forward.of(letter, code == START ? 1 : code);
             return (set & finals) != 0 ? set | 1 : set;
         }
 
-        @Override
         boolean isAccepting(int code) {
             return code == START || (code & finals) != 0;
         }
@@ -735,7 +723,7 @@ public final class LanguageAtoms {
             explore(machine);
             splitByAcceptance();
             boolean grows = true;
-            for (int round = 0; round < MAX_CODES && grows; round++) {
+            for (int round = 0; round < MAX_CODES && grows && kindCount < count; round++) {
                 grows = splitByTargets();
             }
             return kindCount;
@@ -870,22 +858,18 @@ public final class LanguageAtoms {
             this.keys = keys;
         }
 
-        @Override
         int codeBound() {
             return SETS;
         }
 
-        @Override
         int startCode() {
             return base.finals;
         }
 
-        @Override
         int follow(int code, int letter) {
             return backward.of(letter, code);
         }
 
-        @Override
         boolean isAccepting(int code) {
             return (code & 1) == 1;
         }
