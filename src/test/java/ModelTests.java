@@ -15,8 +15,11 @@ import java.util.TreeMap;
  * class: it minimizes by reversing twice, and finds all about atoms from the maps of states that words make.
  */
 public final class ModelTests {
-    private static final int RUNS = 600;
-    private static final int CALLS = 250;
+    private static final int RUNS = 1500;
+    /** What an object answers after this many calls is free. */
+    private static final int CALLS = 512;
+    /** The most calls that a look at all registers and the word takes. */
+    private static final int LOOK = 3 * (1 + 6 * 4) + 13;
 
     /** A complete deterministic automaton of any number of states, whose initial state is 0. */
     private record Dfa(int[][] targets, boolean[] finals) {
@@ -674,7 +677,7 @@ public final class ModelTests {
         }
         List<Integer> word = new ArrayList<>();
         try {
-            for (int i = 0; i < 13; i++) {
+            for (int i = 0; i <= 12; i++) {
                 word.add(x.wordLetter(i));
             }
         } catch (IndexOutOfBoundsException e) {
@@ -883,10 +886,7 @@ public final class ModelTests {
         }
     }
 
-    /** Answers whether the class and the model agreed all along. */
-    private static boolean agree(int run) {
-        LanguageAtoms x = new LanguageAtoms();
-        Model m = new Model();
+    private static void start(LanguageAtoms x, Model m) {
         for (int register = 0; register < 3; register++) {
             int states = 1 + random.nextInt(6);
             int seed = random.nextInt();
@@ -895,15 +895,29 @@ public final class ModelTests {
             x.randomize(register, seed);
             m.randomize(register, seed);
         }
-        for (int call = 0; call < CALLS; call++) {
+    }
+
+    /** Answers whether the class and the model agreed all along; the whole state is looked at now and then. */
+    private static boolean agree(int run) {
+        LanguageAtoms x = new LanguageAtoms();
+        Model m = new Model();
+        start(x, m);
+        int left = CALLS - 6;
+        boolean looksOften = run % 3 == 0;
+        while (left > LOOK) {
             String before = m.show();
             Call[] calls = next(x, m);
             String got = answer(calls[0]);
             String due = answer(calls[1]);
-            String state = show(x);
+            left--;
+            String state = m.show();
+            if (left <= LOOK || random.nextInt(looksOften ? 2 : 80) == 0) {
+                state = show(x);
+                left -= LOOK;
+            }
             if (!got.equals(due) || !state.equals(m.show())) {
-                System.out.println("run " + run + " call " + call + " on " + before + ": answered " + got + " and made "
-                    + state + ", due is " + due + " and " + m.show());
+                System.out.println("run " + run + " with " + left + " calls left, on " + before + ": answered " + got
+                    + " and made " + state + ", due is " + due + " and " + m.show());
                 return false;
             }
         }

@@ -2,7 +2,10 @@ import java.util.ArrayList;
 import java.util.List;
 import java.util.function.Supplier;
 
-/** One method for each promise of the document: ordinary inputs, the edges that it names, and wrong inputs. */
+/**
+ * One method for each promise of the document: ordinary inputs, the edges that it names, and wrong inputs. No object is
+ * used for more than 512 calls.
+ */
 public final class PromiseTests {
     private static final int MIN = Integer.MIN_VALUE;
     private static final int MAX = Integer.MAX_VALUE;
@@ -225,15 +228,16 @@ public final class PromiseTests {
     }
 
     private static void randomize() {
-        LanguageAtoms x = sample();
         for (int states = 1; states <= 6; states++) {
+            LanguageAtoms x = sample();
             for (int seed : new int[] {0, 1, -1, 42, -7, MIN, MAX, 123456789}) {
                 x.makeWitness(1, states);
                 x.randomize(1, seed);
                 due("states " + states + " seed " + seed, show(x, 1), drawn(states, seed));
             }
+            due("others", show(x, 0) + show(x, 2) + word(x), "110 201 020*100 100*abc");
         }
-        due("others", show(x, 0) + show(x, 2) + word(x), "110 201 020*100 100*abc");
+        LanguageAtoms x = sample();
         String before = all(x);
         for (int register : new int[] {-1, 3, MIN, MAX}) {
             dueThrow("register", INDEX, () -> run(() -> x.randomize(register, 1)));
@@ -851,30 +855,34 @@ public final class PromiseTests {
         due("unchanged", x.remainder(0, 3, 0), 0.0);
     }
 
-    private static void remainder() {
+    private static void remaindersOf(int seed, int dividend) {
         LanguageAtoms x = new LanguageAtoms();
-        dueThrow("missing", STATE, () -> x.remainder(0, -1, 50));
-        for (int seed = 1; seed < 40; seed++) {
-            x.reset(0, 1 + seed % 6);
-            x.randomize(0, seed);
-            x.keepShares(0, 0, 20, false);
-            x.keepShares(1, 0, 20, true);
-            for (int i = 0; i <= 20; i++) {
-                for (int k = 0; k <= 20; k++) {
-                    double a = x.share(0, i);
-                    double b = x.share(0, k);
-                    int p = i;
-                    int q = k;
-                    if (b == 0.0) {
-                        dueThrow("zero", "ArithmeticException", () -> x.remainder(0, p, q));
-                        dueThrow("zero", "ArithmeticException", () -> x.remainder(1, p, q));
-                    } else {
-                        due("double", x.remainder(0, i, k), a % b);
-                        due("float", x.remainder(1, i, k), (double) ((float) a % (float) b));
-                    }
-                }
+        x.reset(0, 1 + seed % 6);
+        x.randomize(0, seed);
+        x.keepShares(0, 0, 20, false);
+        x.keepShares(1, 0, 20, true);
+        double a = x.share(0, dividend);
+        for (int i = 0; i <= 20; i++) {
+            int divisor = i;
+            double b = x.share(0, divisor);
+            if (b == 0.0) {
+                dueThrow("zero", "ArithmeticException", () -> x.remainder(0, dividend, divisor));
+                dueThrow("zero", "ArithmeticException", () -> x.remainder(1, dividend, divisor));
+            } else {
+                due("double", x.remainder(0, dividend, divisor), a % b);
+                due("float", x.remainder(1, dividend, divisor), (double) ((float) a % (float) b));
             }
         }
+    }
+
+    private static void remainder() {
+        for (int seed = 1; seed < 40; seed++) {
+            for (int dividend = 0; dividend <= 20; dividend++) {
+                remaindersOf(seed, dividend);
+            }
+        }
+        LanguageAtoms x = new LanguageAtoms();
+        dueThrow("missing", STATE, () -> x.remainder(0, -1, 50));
         x.makeWitness(0, 1);
         x.keepShares(0, 0, 5, true);
         for (int row : new int[] {-1, 2, MIN, MAX}) {

@@ -13,7 +13,8 @@ import java.util.TreeSet;
 
 /** The face of the class, the rules of LANGUAGE.md that can be seen from outside, and the room that a run takes. */
 public final class RulesTests {
-    private static final int CALLS = 512;
+    /** An object is used for at most 512 calls; two rounds of these are within them. */
+    private static final int CALLS = 248;
     private static final String[] FACE = {
         "void reset(int,int) IndexOutOfBoundsException,IllegalArgumentException",
         "void setTarget(int,int,int,int) IndexOutOfBoundsException",

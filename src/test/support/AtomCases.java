@@ -244,7 +244,8 @@ final class AtomCases {
         Bench.test("- `atom`: the number of the atom",
             () -> Bench.range("atom", 0, 7, Bench.INDEX, a -> x -> x.takeAtomWord(0, a)));
         Bench.test("Returns the length of the word.", () -> {
-            LanguageAtoms x = Bench.setWord(Bench.with(Bench.EMPTY, Bench.WITNESSES[4], Bench.LENGTH_4), "abcabcabcabc");
+            LanguageAtoms x = Bench.with(Bench.EMPTY, Bench.WITNESSES[4], Bench.LENGTH_4);
+            Bench.setWord(x, "abcabcabcabc");
             Bench.due("the least", x.takeAtomWord(0, 0), 0);
             Bench.due("the least", Bench.word(x), "");
             Bench.due("the greatest", x.takeAtomWord(1, 11), 12);

@@ -148,8 +148,8 @@ final class DescriptionCases {
         });
         Bench.test("Words are ordered by length, and words of the same length lexicographically.", () -> {
             // The words b and aa; ac and ba; ab and ba; cca and ccb.
-            String[][] cases = {{"123 233 333* 333", "b"}, {"124 443 344 444* 444", "ac"}, {"124 434 344 444* 444", "ab"},
-                {"441 442 334 444* 444", "cca"}};
+            String[][] cases = {{"123 233 333* 333", "b"}, {"124 443 344 444* 444", "ac"},
+                {"124 434 344 444* 444", "ab"}, {"441 442 334 444* 444", "cca"}};
             for (String[] pair : cases) {
                 LanguageAtoms x = Bench.with(pair[0], Bench.EMPTY);
                 x.takeDifference(0, 1);
@@ -224,8 +224,8 @@ final class DescriptionCases {
             }
             Bench.due("all words", sum, 40);
         });
-        Bench.test("An atom A leads with a letter to an atom B if each word of B, with the letter put in front of it, is "
-            + "in A.", () -> {
+        Bench.test("An atom A leads with a letter to an atom B if each word of B, with the letter put in front of it, "
+            + "is in A.", () -> {
                 String automaton = Bench.ATOMS_7;
                 for (String word : Bench.words(4)) {
                     for (int letter = 0; letter < 3; letter++) {
@@ -308,8 +308,8 @@ final class DescriptionCases {
                 }
             }
         });
-        Bench.test("The letter b exchanges the states 0 and 1 and leads from each other state to itself; with one state it "
-            + "leads from state 0 to itself.", () -> {
+        Bench.test("The letter b exchanges the states 0 and 1 and leads from each other state to itself; with one "
+            + "state it leads from state 0 to itself.", () -> {
                 String[] targets = {"0", "10", "102", "1023", "10234", "102345"};
                 for (int n = 1; n <= 6; n++) {
                     LanguageAtoms x = new LanguageAtoms();

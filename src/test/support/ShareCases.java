@@ -36,8 +36,8 @@ final class ShareCases {
 
     private static void share() {
         Bench.promise(33);
-        Bench.test("the number of these words divided by the number of all words of the length, both converted to double.",
-            () -> {
+        Bench.test("the number of these words divided by the number of all words of the length, both converted to "
+            + "double.", () -> {
                 String automaton = "312* 032 411* 250 125* 401";
                 LanguageAtoms x = Bench.with(automaton);
                 for (int length = 0; length <= 7; length++) {
@@ -169,8 +169,8 @@ final class ShareCases {
 
     private static void remainder() {
         Bench.promise(35);
-        Bench.test("Returns the remainder of two elements of a row by the Java operator %, in the type of the elements; "
-            + "a float remainder is converted to double.", () -> {
+        Bench.test("Returns the remainder of two elements of a row by the Java operator %, in the type of the "
+            + "elements; a float remainder is converted to double.", () -> {
                 int differ = 0;
                 for (int i = 0; i <= 20; i++) {
                     LanguageAtoms x = twoRows();
@@ -225,10 +225,9 @@ final class ShareCases {
         Bench.test("Throws `ArithmeticException` if the divisor is 0", () -> {
             for (int row = 0; row < 2; row++) {
                 int w = row;
-                for (int i = 0; i <= 5; i++) {
-                    int n = i;
-                    Bench.refused("0 by 0", Bench.ARITHMETIC, ShareCases::zeroRow, x -> x.remainder(w, 0, n == 1 ? 0 : n));
-                    Bench.refused("by 0", Bench.ARITHMETIC, ShareCases::zeroRow, x -> x.remainder(w, 1, n == 1 ? 5 : n));
+                for (int i : new int[] {0, 2, 3, 4, 5}) {
+                    Bench.refused("0 by 0", Bench.ARITHMETIC, ShareCases::zeroRow, x -> x.remainder(w, 0, i));
+                    Bench.refused("by 0", Bench.ARITHMETIC, ShareCases::zeroRow, x -> x.remainder(w, 1, i));
                 }
                 Bench.taken("0 by another number", ShareCases::zeroRow, x -> x.remainder(w, 0, 1));
                 Bench.taken("by another number", ShareCases::zeroRow, x -> x.remainder(w, 1, 1));

@@ -53,7 +53,8 @@ final class WordCases {
             }
         });
         Bench.test("Throws `IllegalStateException` if the word has 12 letters", () -> {
-            Bench.taken("the twelfth letter", () -> Bench.setWord(Bench.sample(), "abcabcabcab"), x -> x.appendLetter(2));
+            Bench.taken("the twelfth letter", () -> Bench.setWord(Bench.sample(), "abcabcabcab"),
+                x -> x.appendLetter(2));
             for (int letter = 0; letter < 3; letter++) {
                 int c = letter;
                 Bench.refused("the thirteenth letter", Bench.STATE, WordCases::full, x -> x.appendLetter(c));
@@ -170,8 +171,10 @@ final class WordCases {
     private static void minimize() {
         Bench.promise(15);
         Bench.test("Replaces an automaton by the minimal automaton of its language.", () -> {
-            String[][] pairs = {{"123 234 345 450 501 012", Bench.EMPTY}, {"123* 234* 345* 450* 501* 012*", Bench.EVERY},
-                {"000 123* 234 345* 450 501*", Bench.EMPTY}, {"543 111* 222 333* 444 555*", "121 111* 222"},
+            String[][] pairs = {{"123 234 345 450 501 012", Bench.EMPTY},
+                {"123* 234* 345* 450* 501* 012*", Bench.EVERY},
+                {"000 123* 234 345* 450 501*", Bench.EMPTY},
+                {"543 111* 222 333* 444 555*", "121 111* 222"},
                 {"200 111 200*", Bench.ENDS_WITH_A}, {"321 111 222* 333", "121 111 222*"},
                 {"555* 000 000 000 000 000", Bench.EVEN_LENGTH}};
             for (String[] pair : pairs) {
