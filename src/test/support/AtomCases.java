@@ -1,4 +1,5 @@
 import java.util.Map;
+import java.util.TreeMap;
 import java.util.TreeSet;
 import java.util.function.IntFunction;
 
@@ -399,6 +400,33 @@ final class AtomCases {
         Bench.refused("too great alone", Bench.STATE, x -> x.uniteAtoms(0, 1L, 1));
     }
 
+    /** Whether no two words of up to 7 letters in one atom of a language are told apart by another language. */
+    private static boolean decides(String automaton, String other) {
+        Map<Integer, Boolean> answers = new TreeMap<>();
+        for (String word : Bench.words(7)) {
+            boolean inside = Bench.contains(other, 0, word);
+            Boolean before = answers.putIfAbsent(Bench.setOf(automaton, word), inside);
+            if (before != null && before != inside) {
+                return false;
+            }
+        }
+        return true;
+    }
+
+    private static void eachPairOfLanguages() {
+        // What ends with a, with b, with c: whichever letter tells the words of an atom apart, it is found.
+        String[] automata = {Bench.EMPTY, Bench.EVERY, Bench.ONLY_EMPTY_WORD, Bench.ONLY_A, Bench.ENDS_WITH_A,
+            "010 010*", "001 001*", Bench.STARTS_WITH_A, "212 111* 222", Bench.WITHOUT_A, Bench.EVEN_LENGTH, Bench.ODD_LENGTH,
+            Bench.LENGTH_1, Bench.LENGTH_4, Bench.ALL_BUT_LENGTH_4, Bench.ATOMS_7, Bench.ATOM_OF_SIZE_7,
+            Bench.WITNESSES[1], Bench.WITNESSES[2], Bench.WITNESSES[5]};
+        for (String automaton : automata) {
+            for (String other : automata) {
+                Bench.due(other + " of atoms of " + automaton, Bench.with(automaton, other).isUnionOfAtoms(0, 1),
+                    decides(automaton, other));
+            }
+        }
+    }
+
     private static void isUnionOfAtoms() {
         Bench.promise(31);
         Bench.test("Returns whether the language of a register is a union of atoms of the language of another one.",
@@ -430,6 +458,7 @@ final class AtomCases {
             Bench.set(x, 1, "111 222 333 444 555* 444");
             Bench.due("lengths 4, 6, 8, ..", x.isUnionOfAtoms(0, 1), false);
             Bench.due("the other way round", x.isUnionOfAtoms(1, 0), false);
+            eachPairOfLanguages();
         });
         Bench.test("Throws `IndexOutOfBoundsException` if one of the registers does not exist", () -> {
             int[][] wrongs = {{-1, 0}, {3, 0}, {0, -1}, {0, 3}, {Bench.MIN, 0}, {0, Bench.MAX}, {3, 3}, {-1, -1}};
